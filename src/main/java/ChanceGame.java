@@ -28,14 +28,11 @@ public final class ChanceGame {
     private static final char END = 0;
 
     private final Text text = new Text();
-    private final Reader reader = new Reader();
-    private final Found found = new Found();
-    private final Values values = new Values();
-    private final GoodChoices goodChoices = new GoodChoices();
-
-    /** Two games take turns, so that a text that is none leaves the latest game as it was. */
+    private final Reader reader = new Reader(text);
     private Game game = new Game();
-    private Game draft = new Game();
+    private final Found found = new Found(game);
+    private final Values values = new Values(found);
+    private final GoodChoices goodChoices = new GoodChoices();
     private boolean hasGame = false;
     private boolean hasValues = false;
 
@@ -51,13 +48,10 @@ public final class ChanceGame {
     }
 
     public int read() throws IllegalArgumentException {
-        reader.readGame(text, draft);
-        Game old = game;
-        game = draft;
-        draft = old;
+        game = reader.readInPlaceOf(game);
         hasGame = true;
         hasValues = false;
-        found.clear();
+        found.clear(game);
         text.clear();
         return game.count;
     }
@@ -70,11 +64,11 @@ public final class ChanceGame {
         if (!hasGame) {
             throw new IllegalStateException("there is no game");
         }
-        int answer = found.explore(game);
+        int answer = found.explore();
         found.link();
         hasValues = answer > 0;
         if (hasValues) {
-            values.compute(found);
+            values.compute();
             goodChoices.choose(found, values);
         }
         return answer;
@@ -345,14 +339,18 @@ public final class ChanceGame {
      * behind the last variable that could be updated may stand, the name that follows may not.
      */
     private static final class Reader {
-        private Text text = null;
-        private Game game = null;
+        private final Text text;
+        /** What is read into; nobody else sees it before the whole text is read. */
+        private Game game = new Game();
         private int at = 0;
         int wrongPlace = NONE;
 
-        void readGame(Text from, Game into) {
+        Reader(Text from) {
             text = from;
-            game = into;
+        }
+
+        /** Takes the old game to read the next text into, so that two are enough for all reading. */
+        Game readInPlaceOf(Game old) {
             at = 0;
             game.clear();
             for (int v = 0; v < NAMES && isName(here()); v++) {
@@ -367,6 +365,9 @@ public final class ChanceGame {
             if (at < text.length) {
                 refuse(at);
             }
+            Game told = game;
+            game = old;
+            return told;
         }
 
         private void readVariable() {
@@ -519,7 +520,7 @@ public final class ChanceGame {
 
     /** The states that were found, by their numbers, and what comes of the commands in them. */
     private static final class Found {
-        Game game = null;
+        Game game;
         int count = 0;
         int mixedState = NONE;
         int targets = 0;
@@ -532,7 +533,13 @@ public final class ChanceGame {
         private final int[][] nexts = new int[MOST_STATES][MOST_COMMANDS * MOST_BRANCHES];
         private final int[] coming = new int[NAMES];
 
-        void clear() {
+        Found(Game from) {
+            game = from;
+        }
+
+        /** Nothing is found yet of this game. */
+        void clear(Game from) {
+            game = from;
             count = 0;
             looked = 0;
             targets = 0;
@@ -556,9 +563,8 @@ public final class ChanceGame {
         }
 
         /** How many states there are, MIXED or MANY. */
-        int explore(Game from) {
-            clear();
-            game = from;
+        int explore() {
+            clear(game);
             ofMax = game.commandsOfMax();
             add(game.first);
             for (int i = 0; i < MOST_STATES && i < count; i++) {
@@ -746,7 +752,7 @@ public final class ChanceGame {
         /** Far above the few rounds that so small a game can take. */
         private static final int MOST_ROUNDS = 1000000;
 
-        private Found found = null;
+        private final Found found;
         private final Attraction attraction = new Attraction();
         private final Equations equations = new Equations();
         private final int[] chosen = new int[MOST_STATES];
@@ -755,8 +761,11 @@ public final class ChanceGame {
         final long[] upper = new long[MOST_STATES];
         final long[] lower = new long[MOST_STATES];
 
-        void compute(Found states) {
+        Values(Found states) {
             found = states;
+        }
+
+        void compute() {
             chooseFirst();
             boolean better = true;
             for (int round = 0; round < MOST_ROUNDS && better; round++) {

@@ -5,7 +5,7 @@ import java.lang.reflect.Modifier;
 import java.util.Arrays;
 import java.util.TreeSet;
 
-/** The public face, its constants, and promise 1. */
+/** The public face and its constants. */
 public final class FaceTest {
     private static final String[] METHODS = {
         "int branch(int, int, int)", "int choice(int, int)",
@@ -22,7 +22,6 @@ public final class FaceTest {
         Check check = new Check();
         members(check);
         constants(check);
-        newObject(check);
         check.end();
     }
 
@@ -68,24 +67,5 @@ public final class FaceTest {
         check.due("NONE", ChanceGame.NONE, -1);
         check.due("MIXED", ChanceGame.MIXED, -2);
         check.due("MANY", ChanceGame.MANY, -3);
-    }
-
-    private static void newObject(Check check) {
-        ChanceGame game = new ChanceGame();
-        check.due("new: place", game.place(), ChanceGame.NONE);
-        check.due("new: states", game.states(), 0);
-        check.due("new: mixed", game.mixed(), ChanceGame.NONE);
-        check.due("new: variable", game.variable(0, 0), ChanceGame.NONE);
-        check.due("new: target", game.target(0), false);
-        check.due("new: owner", game.owner(0), ChanceGame.NONE);
-        check.due("new: choice", game.choice(0, 0), ChanceGame.NONE);
-        check.due("new: branch", game.branch(0, 0, 0), ChanceGame.NONE);
-        check.dueThrow("new: solve", IllegalStateException.class, game::solve);
-        check.dueThrow("new: upper", IllegalStateException.class, () -> game.upper(0));
-        check.dueThrow("new: lower", IllegalStateException.class, () -> game.lower(0));
-        check.dueThrow("new: good", IllegalStateException.class, () -> game.good(0));
-        check.due("new: wipe", game.wipe(), 0);
-        check.dueThrow("new: read", IllegalArgumentException.class, game::read);
-        check.due("new: place of no text", game.place(), 0);
     }
 }

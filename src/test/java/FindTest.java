@@ -6,19 +6,11 @@ public final class FindTest {
         Check check = new Check();
         order(check);
         comparisons(check);
-        clamped(check);
-        valuesBefore(check);
-        eightStates(check);
-        tooMany(check);
         tooManyInTheMidst(check);
         mixed(check);
-        mixedBeforeMany(check);
         mixedLoop(check);
-        targetIsNotMixed(check);
         noVariables(check);
         namesOutOfOrder(check);
-        wrongArguments(check);
-        again(check);
         check.end();
     }
 
@@ -74,45 +66,6 @@ public final class FindTest {
         }
     }
 
-    private static void clamped(Check check) {
-        ChanceGame x = Check.solved("a4:2;b9:9;+a=2?1:a=a-3|1:a=a+3,b=b-10|1:a=99,b=0-99|1:b=99+99;!0=1");
-        check.due("states", x.states(), 3);
-        dueState(check, x, 0, 2, 9);
-        dueState(check, x, 1, 0, 9);
-        dueState(check, x, 2, 4, 0);
-        check.due("clamped above and below", x.branch(0, 0, 2), 21);
-        check.due("clamped where it is", x.branch(0, 0, 3), 1);
-    }
-
-    private static void valuesBefore(Check check) {
-        ChanceGame x = Check.solved("a9:1;b9:2;c9:4;+c=4?1:a=b,b=a,c=a+b+c;!c=7");
-        check.due("states", x.states(), 2);
-        dueState(check, x, 0, 1, 2, 4);
-        dueState(check, x, 1, 2, 1, 7);
-        check.due("target", x.target(1), true);
-    }
-
-    private static void eightStates(Check check) {
-        ChanceGame x = Check.withGame("a7:0;+a<7?1:a=a+1;!a=7");
-        check.due("eight states are not too many", x.solve(), 8);
-        check.due("values", x.upper(0), 1);
-        check.due("all were looked at", x.owner(6), 1);
-    }
-
-    private static void tooMany(Check check) {
-        ChanceGame x = Check.withGame("a8:0;+a<8?1:a=a+1;!a=8");
-        check.due("solve", x.solve(), ChanceGame.MANY);
-        check.due("states", x.states(), 8);
-        check.due("mixed", x.mixed(), NONE);
-        check.due("the last was looked at", x.choice(7, 0), 0);
-        check.due("what comes was not found", x.branch(7, 0, 0), NONE);
-        check.due("what came before it", x.branch(6, 0, 0), 71);
-        check.dueThrow("upper", IllegalStateException.class, () -> x.upper(0));
-        check.dueThrow("lower", IllegalStateException.class, () -> x.lower(0));
-        check.dueThrow("good", IllegalStateException.class, () -> x.good(0));
-        check.dueThrow("no values comes first", IllegalStateException.class, () -> x.upper(8));
-    }
-
     /** State 1 is looked at when it is too many; the states from 2 on were not looked at. */
     private static void tooManyInTheMidst(Check check) {
         ChanceGame x = Check.withGame(
@@ -157,16 +110,6 @@ public final class FindTest {
         check.due("mixed again", x.mixed(), 2);
     }
 
-    private static void mixedBeforeMany(Check check) {
-        ChanceGame x = Check.withGame("a9:0;+1=1?1:a=a+1;-a=7?1;!a=9");
-        check.due("the eighth is mixed before a ninth", x.solve(), ChanceGame.MIXED);
-        check.due("mixed", x.mixed(), 7);
-        check.due("states", x.states(), 8);
-        x = Check.withGame("a9:0;+1=1?1:a=a+1;-a=8?1;!a=9");
-        check.due("the ninth is too many before it is mixed", x.solve(), ChanceGame.MANY);
-        check.due("mixed", x.mixed(), NONE);
-    }
-
     private static void mixedLoop(Check check) {
         ChanceGame x = Check.withGame("-1=1?1;+1=1?2;!0=1");
         check.due("solve", x.solve(), ChanceGame.MIXED);
@@ -174,16 +117,6 @@ public final class FindTest {
         check.due("states", x.states(), 1);
         check.due("branch 0 0 0", x.branch(0, 0, 0), 1);
         check.due("branch 0 1 0", x.branch(0, 1, 0), 2);
-    }
-
-    private static void targetIsNotMixed(Check check) {
-        ChanceGame x = Check.withGame("a1:1;+a=1?1:a=0;-a=1?1:a=0;!a=1");
-        check.due("solve", x.solve(), 1);
-        check.due("mixed", x.mixed(), NONE);
-        check.due("owner", x.owner(0), NONE);
-        check.due("branch", x.branch(0, 0, 0), NONE);
-        check.due("upper", x.upper(0), 1);
-        check.due("good", x.good(0), NONE);
     }
 
     private static void noVariables(Check check) {
@@ -200,46 +133,5 @@ public final class FindTest {
         ChanceGame x = Check.solved("c9:7;a5:2;!c=7");
         dueState(check, x, 0, 2, NONE, 7);
         check.due("target", x.target(0), true);
-    }
-
-    private static void wrongArguments(Check check) {
-        ChanceGame x = Check.solved("a5:2;b3:1;+a<3?1:a=a+1;-a=3?1|2:b=2;!0=1");
-        check.due("states", x.states(), 3);
-        int[] wrong = {-1, -2, 3, 8, 9, 10, 40, 1000, Integer.MIN_VALUE, Integer.MAX_VALUE};
-        for (int k : wrong) {
-            check.due("variable of state " + k, x.variable(k, 0), NONE);
-            check.due("variable " + k, x.variable(0, k), NONE);
-            check.due("target " + k, x.target(k), false);
-            check.due("owner " + k, x.owner(k), NONE);
-            check.due("choice of state " + k, x.choice(k, 0), NONE);
-            check.due("choice " + k, x.choice(0, k), NONE);
-            check.due("branch of state " + k, x.branch(k, 0, 0), NONE);
-            check.due("branch of command " + k, x.branch(0, k, 0), NONE);
-            check.due("branch " + k, x.branch(0, 0, k), NONE);
-            check.dueThrow("upper " + k, IndexOutOfBoundsException.class, () -> x.upper(k));
-            check.dueThrow("lower " + k, IndexOutOfBoundsException.class, () -> x.lower(k));
-            check.dueThrow("good " + k, IndexOutOfBoundsException.class, () -> x.good(k));
-        }
-        check.due("variable c is none", x.variable(0, 2), NONE);
-    }
-
-    /** A smaller game behind a larger one: nothing of the larger one may be left. */
-    private static void again(Check check) {
-        ChanceGame x = Check.withGame("a7:0;b3:3;+a<7?1:a=a+1|1:a=7,b=0;!a=7&b=3");
-        check.due("solve", x.solve(), ChanceGame.MANY);
-        Check.type(x, "b2:1;-b=1?1:b=2;!b=2");
-        check.due("read", x.read(), 1);
-        check.due("solve", x.solve(), 2);
-        check.due("solve again", x.solve(), 2);
-        dueState(check, x, 0, NONE, 1, NONE);
-        dueState(check, x, 1, NONE, 2, NONE);
-        check.due("states", x.states(), 2);
-        check.due("owner", x.owner(0), 0);
-        check.due("choice 0 1", x.choice(0, 1), NONE);
-        check.due("branch 0 0 0", x.branch(0, 0, 0), 11);
-        check.due("branch 0 0 1", x.branch(0, 0, 1), NONE);
-        check.due("target 1", x.target(1), true);
-        check.due("upper", x.upper(0), 1);
-        check.due("good", x.good(0), 0);
     }
 }

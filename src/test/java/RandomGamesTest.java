@@ -26,16 +26,13 @@ public final class RandomGamesTest {
     }
 
     private void run(int games) {
-        ChanceGame x = new ChanceGame();
+        String[] earlier = {"!1=1", "!1=1"};
         for (int k = 0; k < games; k++) {
             Told told = k % 2 == 0 ? anyGame() : boardGame();
             String text = told.toString();
             if (text.length() <= 200) {
-                // One object for several games, so that what is left of one would be seen.
-                x = k % 5 == 0 ? new ChanceGame() : x;
-                Check.type(x, text);
-                check.due("read " + text, x.read(), told.commands.size());
-                compare(x, new Played(told), text);
+                compare(earlier, new Played(told), text);
+                earlier = new String[] {earlier[1], text};
             }
         }
         System.out.println(solved + " games solved, " + mixed + " mixed, " + many + " with too many states, "
@@ -140,14 +137,27 @@ public final class RandomGamesTest {
         return sum;
     }
 
-    private void compare(ChanceGame x, Played played, String text) {
+    /** The object solved earlier games before, so that what is left of them would be seen. */
+    private ChanceGame solvedBehind(String[] earlier, Played played, String text) {
+        ChanceGame x = Check.solved(earlier[0]);
+        Check.type(x, earlier[1]);
+        x.read();
+        x.solve();
+        Check.type(x, text);
+        check.due("read " + text, x.read(), played.game.commands.size());
         check.due("states before solve of " + text, x.states(), 0);
         check.due("solve of " + text, x.solve(), played.answer);
+        return x;
+    }
+
+    private void compare(String[] earlier, Played played, String text) {
+        for (int i = -1; i <= 8; i++) {
+            // An object for each state, as one is used for no more than 512 calls.
+            compareState(solvedBehind(earlier, played, text), played, i, "of state " + i + " of " + text);
+        }
+        ChanceGame x = solvedBehind(earlier, played, text);
         check.due("states of " + text, x.states(), played.states.size());
         check.due("mixed of " + text, x.mixed(), played.mixed);
-        for (int i = -1; i <= 8; i++) {
-            compareState(x, played, i, "of state " + i + " of " + text);
-        }
         if (played.answer > 0) {
             if (played.pairs() <= 200) {
                 solved++;

@@ -9,6 +9,7 @@ public final class ValueTest {
         ends(check);
         loopsForEver(check);
         bestOfMany(check);
+        betterThanTheFirst(check);
         maxMustNotWait(check);
         maxMustNotTrustMin(check);
         earlierGoodChoicesBind(check);
@@ -51,6 +52,9 @@ public final class ValueTest {
     private static void loopsForEver(Check check) {
         dueValue(check, Check.solved("+1=1?1;!1=2"), 0, 0, 1, 0);
         dueValue(check, Check.solved("-1=1?1;!1=2"), 0, 0, 1, 0);
+        ChanceGame x = Check.solved("a3:0;+a=0?1:a=1|1:a=2;-a=2?1;!a=1");
+        dueValue(check, x, 0, 1, 2, 0);
+        dueValue(check, x, 2, 0, 1, 1);
         // A loop that is left for certain takes nothing from the value.
         dueValue(check, Check.solved("a1:0;-a=0?5|1:a=1;!a=1"), 0, 1, 1, 0);
     }
@@ -62,8 +66,22 @@ public final class ValueTest {
         dueValue(check, Check.solved("a2:0;" + ("S" + tosses).replace('S', '-') + "!a=2"), 0, 1, 3, 1);
     }
 
+    /** A way that is seen first to have a chance at all is not yet the best one. */
+    private static void betterThanTheFirst(Check check) {
+        ChanceGame x = Check.solved("a3:0;+a=0?1:a=1;+a=0?1:a=2|5:a=3;+a=1?1:a=2;!a=2");
+        dueValue(check, x, 0, 1, 1, 0);
+        dueValue(check, x, 1, 1, 1, 2);
+        // A half, and one: no smaller step up can be.
+        x = Check.solved("a4:0;+a=0?1:a=1;+a=0?1:a=2;+a=1?1:a=3|1:a=4;+a=2?1:a=3;!a=3");
+        dueValue(check, x, 0, 1, 1, 1);
+        dueValue(check, x, 1, 1, 2, 2);
+        x = Check.solved("a4:0;-a=0?1:a=2;-a=0?1:a=1;+a=1?1:a=3|1:a=4;+a=2?1:a=3;!a=3");
+        dueValue(check, x, 0, 1, 2, 1);
+    }
+
     /** To wait gives a state just its value, but who only waits gets nothing. */
     private static void maxMustNotWait(Check check) {
+        dueValue(check, Check.solved("a2:0;+a=0?1:a=1|1:a=2;+a=0?1;!a=1"), 0, 1, 2, 0);
         dueValue(check, Check.solved("a2:0;+a=0?1;+a=0?1:a=1|1:a=2;!a=1"), 0, 1, 2, 1);
         ChanceGame x = Check.solved("a3:0;+a=0?1:a=1;+a=1?1:a=0;+a<2?1:a=2|1:a=3;!a=2");
         dueValue(check, x, 0, 1, 2, 0);
