@@ -27,11 +27,10 @@ public final class ChanceGame {
     /** Stands for the text's end; no character that can be typed is equal to it. */
     private static final char END = 0;
 
-    private final Text text = new Text();
-    private final Reader reader = new Reader(text);
-    private Game game = new Game();
-    private final Found found = new Found(game);
-    private final Values values = new Values(found);
+    private final Reader reader = new Reader();
+    private final Text text = reader.text;
+    private final Values values = new Values();
+    private final Found found = values.found;
     private final GoodChoices goodChoices = new GoodChoices();
     private boolean hasGame = false;
     private boolean hasValues = false;
@@ -48,12 +47,11 @@ public final class ChanceGame {
     }
 
     public int read() throws IllegalArgumentException {
-        game = reader.readInPlaceOf(game);
+        found.begin(reader.readInPlaceOf(found.game));
         hasGame = true;
         hasValues = false;
-        found.clear(game);
         text.clear();
-        return game.count;
+        return found.game.count;
     }
 
     public int place() {
@@ -83,7 +81,7 @@ public final class ChanceGame {
     }
 
     public int variable(int i, int v) {
-        if (!found.has(i) || v < 0 || v >= NAMES || !game.hasVariable(v)) {
+        if (!found.has(i) || v < 0 || v >= NAMES || !found.game.hasVariable(v)) {
             return NONE;
         }
         return found.values[i][v];
@@ -118,10 +116,10 @@ public final class ChanceGame {
     }
 
     public int branch(int i, int c, int b) {
-        if (!found.has(i) || c < 0 || c >= game.count || !hasBit(found.enabled[i], c)) {
+        if (!found.has(i) || c < 0 || c >= found.game.count || !hasBit(found.enabled[i], c)) {
             return NONE;
         }
-        Command command = game.commands[c];
+        Command command = found.game.commands[c];
         if (b < 0 || b >= command.count) {
             return NONE;
         }
@@ -339,15 +337,11 @@ public final class ChanceGame {
      * behind the last variable that could be updated may stand, the name that follows may not.
      */
     private static final class Reader {
-        private final Text text;
+        final Text text = new Text();
         /** What is read into; nobody else sees it before the whole text is read. */
         private Game game = new Game();
         private int at = 0;
         int wrongPlace = NONE;
-
-        Reader(Text from) {
-            text = from;
-        }
 
         /** Takes the old game to read the next text into, so that two are enough for all reading. */
         Game readInPlaceOf(Game old) {
@@ -520,7 +514,7 @@ public final class ChanceGame {
 
     /** The states that were found, by their numbers, and what comes of the commands in them. */
     private static final class Found {
-        Game game;
+        Game game = new Game();
         int count = 0;
         int mixedState = NONE;
         int targets = 0;
@@ -533,13 +527,12 @@ public final class ChanceGame {
         private final int[][] nexts = new int[MOST_STATES][MOST_COMMANDS * MOST_BRANCHES];
         private final int[] coming = new int[NAMES];
 
-        Found(Game from) {
+        void begin(Game from) {
             game = from;
+            clear();
         }
 
-        /** Nothing is found yet of this game. */
-        void clear(Game from) {
-            game = from;
+        private void clear() {
             count = 0;
             looked = 0;
             targets = 0;
@@ -564,7 +557,7 @@ public final class ChanceGame {
 
         /** How many states there are, MIXED or MANY. */
         int explore() {
-            clear(game);
+            clear();
             ofMax = game.commandsOfMax();
             add(game.first);
             for (int i = 0; i < MOST_STATES && i < count; i++) {
@@ -752,7 +745,7 @@ public final class ChanceGame {
         /** Far above the few rounds that so small a game can take. */
         private static final int MOST_ROUNDS = 1000000;
 
-        private final Found found;
+        final Found found = new Found();
         private final Attraction attraction = new Attraction();
         private final Equations equations = new Equations();
         private final int[] chosen = new int[MOST_STATES];
@@ -760,10 +753,6 @@ public final class ChanceGame {
         int positive = 0;
         final long[] upper = new long[MOST_STATES];
         final long[] lower = new long[MOST_STATES];
-
-        Values(Found states) {
-            found = states;
-        }
 
         void compute() {
             chooseFirst();
