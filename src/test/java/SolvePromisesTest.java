@@ -22,6 +22,7 @@ public final class SolvePromisesTest {
         choiceOfMixed();
         branch();
         branchNone();
+        askingDoesNothing();
         noValues();
         noSuchState();
         valuesOfTheLastState();
@@ -278,6 +279,29 @@ public final class SolvePromisesTest {
         ChanceGame mixed = Check.solved(Games.MIXED_AT_1);
         check.due("of a mixed state", mixed.branch(1, 1, 0), NONE);
         check.due("of a mixed state, what was found before", mixed.branch(1, 2, 0), 1);
+    }
+
+    private void askingDoesNothing() {
+        check.sentence("Promises 7 to 13: what is asked for and is none changes nothing");
+        for (String text : new String[] {Games.SMALL, Games.MIXED_AT_1, Games.TOO_MANY}) {
+            ChanceGame x = Check.solved(text);
+            x.type('!', 1);
+            String before = Seen.of(x);
+            for (int k : new int[] {-1, 8, 10, Integer.MIN_VALUE, Integer.MAX_VALUE}) {
+                x.variable(k, 0);
+                x.variable(0, k);
+                x.target(k);
+                x.owner(k);
+                x.choice(k, 0);
+                x.choice(0, k);
+                x.branch(k, 0, 0);
+                x.branch(0, k, 0);
+                x.branch(0, 0, k);
+            }
+            check.due("what was found of " + text, Seen.of(x), before);
+            check.due("the text stays", x.wipe(), 1);
+            check.due("no place", x.place(), NONE);
+        }
     }
 
     private void noValues() {
