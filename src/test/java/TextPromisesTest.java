@@ -256,6 +256,7 @@ public final class TextPromisesTest {
         check.dueNoGame("~?");
         check.dueNoGame("a1:0;+a=0?1:a=1;!a=1~?");
         check.dueNoGame("a1:0;+a=0~!1:?=1;!a=1");
+        dueWrongAnywhere("a1:0;+a=0&1=1?1:a=1+0|2;!a=1", '~');
         check.sentence("Promise 4: for a number that is too long, has a zero in front, or is not allowed there, its first digit");
         check.dueNoGame("!1=~100");
         check.dueNoGame("!1=~01");
@@ -273,6 +274,15 @@ public final class TextPromisesTest {
         String game = "a1:0;+a=0&1=1?1:a=1+0|2;!a=1";
         for (int length = 0; length < game.length(); length++) {
             check.dueNoGame(game.substring(0, length) + "~");
+        }
+    }
+
+    /** For the one character that can be typed and that the marked texts can't have. */
+    private void dueWrongAnywhere(String game, char character) {
+        for (int at = 0; at <= game.length(); at++) {
+            ChanceGame x = new ChanceGame();
+            check.due("reads " + character + " at " + at, Check.reads(x, game.substring(0, at) + character), false);
+            check.due("place of " + character + " at " + at, x.place(), at);
         }
     }
 
